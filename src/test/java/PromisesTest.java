@@ -265,7 +265,11 @@ public final class PromisesTest {
         for (int[] b : bad) {
             due("bad coefficient", loci.coefficient(b[0], b[1], b[2]), 0);
         }
-        // 256 * 7^6 / 7^6 at the top: x^3 y^3
+        // (1 - t^4, 2 t^2, 1 + t^4), as q of t^2: (x^2 - 1) (x^2 + y^2 - 1)^2
+        EliminateLoci sextic = row(of(1, 0, 0, 0, -1), of(0, 0, 2), of(1, 0, 0, 0, 1));
+        dueCurve("degree 6", sextic, 1, 6, 1, 6, 0, 1, 4, 2, 2, 2, 4, 1, 4, 0, -3, 2, 2, -4, 0, 4, -1,
+                2, 0, 3, 0, 2, 2, 0, 0, -1);
+        // the contents 7 of both go, and 256 too
         EliminateLoci quartic = row(of(0, 0, 0, 0, 7), of(7), of());
         dueCurve("7 x t^4 + 7 y", quartic, 1, 2, 3, 1, 1, 1);
     }
