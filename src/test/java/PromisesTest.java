@@ -1,90 +1,28 @@
 /** Each promise of the document, with answers worked out by hand. */
-public final class PromisesTest {
-    private static int wrong = 0;
-
+public final class PromisesTest extends Checks {
     public static void main(String[] args) {
-        constants();
-        promise1NewObject();
-        promise2Term();
-        promise3Clear();
-        promise4Degree();
-        promise5Freed();
-        promise6Value();
-        promise7And8Locus();
-        promise7And8Envelope();
-        promise9Coefficient();
-        promise10Side();
-        promise11At();
-        promise12Follows();
-        promise13Touches();
-        refusalsChangeNothing();
-        answersFollowTheRow();
-        System.out.println(wrong == 0 ? "all promises hold" : wrong + " answers are not as due");
-        if (wrong != 0) {
-            System.exit(1);
-        }
-    }
-
-    private static void due(String what, long got, long want) {
-        if (got != want) {
-            wrong++;
-            System.out.println(what + " answered " + got + ", due is " + want);
-        }
-    }
-
-    /** Polynomials by rising powers. */
-    private static EliminateLoci row(int[] x, int[] y, int[] w) {
-        EliminateLoci loci = new EliminateLoci();
-        int[][] parts = {x, y, w};
-        for (int which = 0; which < 3; which++) {
-            for (int i = 0; i < parts[which].length; i++) {
-                loci.term(which, i, parts[which][i]);
-            }
-        }
-        return loci;
-    }
-
-    private static int[] of(int... coefficients) {
-        return coefficients;
-    }
-
-    private static void dueFreed(String what, EliminateLoci loci, int[]... want) {
-        for (int which = 0; which < 3; which++) {
-            for (int i = 0; i <= 4; i++) {
-                int due = i < want[which].length ? want[which][i] : 0;
-                due(what + " freed(" + which + ", " + i + ")", loci.freed(which, i), due);
-            }
-        }
-    }
-
-    /** Terms as i, j, coefficient; all others have to be 0. */
-    private static void dueCurve(String what, EliminateLoci loci, int sort, int degree, int times, int... terms) {
-        due(what + " trace", loci.trace(sort), degree);
-        due(what + " times", loci.times(sort), times);
-        for (int i = 0; i <= 6; i++) {
-            for (int j = 0; j <= 6; j++) {
-                long want = 0;
-                for (int t = 0; t + 2 < terms.length; t += 3) {
-                    want = terms[t] == i && terms[t + 1] == j ? terms[t + 2] : want;
-                }
-                due(what + " coefficient(" + sort + ", " + i + ", " + j + ")", loci.coefficient(sort, i, j), want);
-            }
-        }
-    }
-
-    private static void dueNoCurve(String what, EliminateLoci loci, int sort) {
-        dueCurve(what, loci, sort, EliminateLoci.NO, EliminateLoci.NO);
-        due(what + " side", loci.side(sort, 1, 2, 3), -8);
-        due(what + " meets", sort == 0 ? loci.follows(1, 2) : loci.touches(1, 2), EliminateLoci.NO);
-    }
-
-    private static EliminateLoci circle() {
-        return row(of(1, 0, -1), of(0, 2), of(1, 0, 1));
+        test("The public face", PromisesTest::constants);
+        test("1 A new object", PromisesTest::promise1NewObject);
+        test("2 term", PromisesTest::promise2Term);
+        test("3 clear", PromisesTest::promise3Clear);
+        test("4 degree", PromisesTest::promise4Degree);
+        test("5 freed", PromisesTest::promise5Freed);
+        test("6 value", PromisesTest::promise6Value);
+        test("7 trace, 8 times of a locus", PromisesTest::promise7And8Locus);
+        test("7 trace, 8 times of an envelope", PromisesTest::promise7And8Envelope);
+        test("9 coefficient", PromisesTest::promise9Coefficient);
+        test("10 side", PromisesTest::promise10Side);
+        test("11 at", PromisesTest::promise11At);
+        test("12 follows", PromisesTest::promise12Follows);
+        test("13 touches", PromisesTest::promise13Touches);
+        test("refusals change nothing", PromisesTest::refusalsChangeNothing);
+        test("answers follow the row", PromisesTest::answersFollowTheRow);
+        end();
     }
 
     private static void constants() {
-        due("BAD", EliminateLoci.BAD, -1);
-        due("NO", EliminateLoci.NO, -2);
+        due("BAD", EliminateLoci.BAD, BAD);
+        due("NO", EliminateLoci.NO, NO);
     }
 
     private static void promise1NewObject() {
@@ -144,14 +82,6 @@ public final class PromisesTest {
         due("clear() of all", full.clear(), 15);
     }
 
-    private static void dueDegrees(String what, EliminateLoci loci, int whole, int rest) {
-        due(what + " degree(0)", loci.degree(0), whole);
-        due(what + " degree(1)", loci.degree(1), rest);
-        due(what + " degree(2)", loci.degree(2), whole - rest);
-        due(what + " degree(-1)", loci.degree(-1), EliminateLoci.BAD);
-        due(what + " degree(3)", loci.degree(3), EliminateLoci.BAD);
-    }
-
     private static void promise4Degree() {
         dueDegrees("constants", row(of(3), of(-2), of(1)), 0, 0);
         dueDegrees("circle", circle(), 2, 2);
@@ -159,6 +89,8 @@ public final class PromisesTest {
         dueDegrees("only Y", row(of(), of(1, 2, 3, 4, 5), of()), 4, 0);
         dueDegrees("like ones", row(of(1, 1, 1, 1, 1), of(2, 2, 2, 2, 2), of(-3, -3, -3, -3, -3)), 4, 0);
         dueDegrees("t^2 + 1", row(of(1, 0, 1), of(0, 1, 0, 1), of(1, 0, 2, 0, 1)), 4, 2);
+        due("degree(-1)", circle().degree(-1), BAD);
+        due("degree(3)", circle().degree(3), BAD);
     }
 
     private static void promise5Freed() {
@@ -179,12 +111,6 @@ public final class PromisesTest {
         int[][] bad = {{-1, 0}, {3, 0}, {0, -1}, {0, 5}, {Integer.MIN_VALUE, 0}, {0, Integer.MAX_VALUE}};
         for (int[] b : bad) {
             due("bad freed", loci.freed(b[0], b[1]), -1000000);
-        }
-    }
-
-    private static void dueValues(String what, EliminateLoci loci, int u, int v, int... want) {
-        for (int part = 0; part < 3; part++) {
-            due(what + " value(" + u + ", " + v + ", " + part + ")", loci.value(u, v, part), want[part]);
         }
     }
 
@@ -227,12 +153,12 @@ public final class PromisesTest {
         dueNoCurve("no W", row(of(1, 2), of(3, 4, 5), of()), 0);
         dueNoCurve("constants", row(of(1), of(2), of(3)), 0);
         dueNoCurve("one place", row(of(0, 0, 1), of(0, 0, 2), of(0, 0, 3)), 0);
-        due("bad trace", circle().trace(2), EliminateLoci.BAD);
-        due("bad trace", circle().trace(-1), EliminateLoci.BAD);
-        due("bad times", circle().times(2), EliminateLoci.BAD);
-        due("bad times", circle().times(Integer.MIN_VALUE), EliminateLoci.BAD);
-        due("bad before no", new EliminateLoci().trace(2), EliminateLoci.BAD);
-        due("bad before no", new EliminateLoci().times(-1), EliminateLoci.BAD);
+        due("bad trace", circle().trace(2), BAD);
+        due("bad trace", circle().trace(-1), BAD);
+        due("bad times", circle().times(2), BAD);
+        due("bad times", circle().times(Integer.MIN_VALUE), BAD);
+        due("bad before no", new EliminateLoci().trace(2), BAD);
+        due("bad before no", new EliminateLoci().times(-1), BAD);
     }
 
     private static void promise7And8Envelope() {
@@ -329,11 +255,11 @@ public final class PromisesTest {
         }
         due("beyond", loci.follows(-9, 0), 1);
         EliminateLoci hyperbola = row(of(0, 0, 1), of(1), of(0, 1));
-        due("W is 0", hyperbola.follows(0, 5), EliminateLoci.NO);
-        due("W is 0 beyond", hyperbola.follows(5, 0), EliminateLoci.NO);
+        due("W is 0", hyperbola.follows(0, 5), NO);
+        due("W is 0 beyond", hyperbola.follows(5, 0), NO);
         due("W is not 0", hyperbola.follows(5, 1), 1);
-        due("common zero", row(of(0, 1), of(0, 0, 1), of(0, 1)).follows(0, 1), EliminateLoci.NO);
-        due("no locus", row(of(1), of(2), of(3)).follows(1, 1), EliminateLoci.NO);
+        due("common zero", row(of(0, 1), of(0, 0, 1), of(0, 1)).follows(0, 1), NO);
+        due("no locus", row(of(1), of(2), of(3)).follows(1, 1), NO);
         dueBadParameters("follows", loci, true);
         dueBadParameters("bad before no follows", new EliminateLoci(), true);
     }
@@ -341,7 +267,7 @@ public final class PromisesTest {
     private static void dueBadParameters(String what, EliminateLoci loci, boolean follows) {
         int[][] bad = {{0, 0}, {10, 1}, {-10, 1}, {1, 10}, {1, -10}, {Integer.MIN_VALUE, 1}, {0, Integer.MAX_VALUE}};
         for (int[] b : bad) {
-            due(what, follows ? loci.follows(b[0], b[1]) : loci.touches(b[0], b[1]), EliminateLoci.BAD);
+            due(what, follows ? loci.follows(b[0], b[1]) : loci.touches(b[0], b[1]), BAD);
         }
     }
 
@@ -352,15 +278,15 @@ public final class PromisesTest {
         }
         due("beyond", loci.touches(1, 0), 1);
         EliminateLoci cubic = row(of(0, 1), of(0, 0, 0, 1), of(1));
-        due("no line", cubic.touches(0, 1), EliminateLoci.NO);
+        due("no line", cubic.touches(0, 1), NO);
         due("two lines", cubic.touches(2, 1), 1);
         // x (t^2 + 1) + 2 t: by u 2 x u + 2 v, by v 2 x v + 2 u: both upright
         EliminateLoci upright = row(of(1, 0, 1), of(), of(0, 2));
         due("has an envelope", upright.trace(1), 2);
-        due("no place", upright.touches(1, 2), EliminateLoci.NO);
-        due("one line", upright.touches(1, 1), EliminateLoci.NO);
-        due("no envelope", row(of(1, 2), of(3, 4), of(5)).touches(1, 1), EliminateLoci.NO);
-        due("0 all over", row(of(0, 0, 1), of(0, 0, 0, 1), of(0, 0, 2)).touches(1, 1), EliminateLoci.NO);
+        due("no place", upright.touches(1, 2), NO);
+        due("one line", upright.touches(1, 1), NO);
+        due("no envelope", row(of(1, 2), of(3, 4), of(5)).touches(1, 1), NO);
+        due("0 all over", row(of(0, 0, 1), of(0, 0, 0, 1), of(0, 0, 2)).touches(1, 1), NO);
         dueBadParameters("touches", loci, false);
         dueBadParameters("bad before no touches", new EliminateLoci(), false);
     }
