@@ -229,6 +229,7 @@ public final class EdgesTest extends Checks {
         test("and the highest above 0)", EdgesTest::divisorIsAboveZero);
         test("n is the greatest power that the FREED row has", EdgesTest::freedDegree);
         test("freed: of power i, 0 .. 4", EdgesTest::freedBeyondItsDegree);
+        test("FREED is of THE ROW in hand, whatever it was before", EdgesTest::freedInTurn);
     }
 
     private static void twoShare() {
@@ -294,6 +295,23 @@ public final class EdgesTest extends Checks {
             for (int i = 2; i <= 4; i++) {
                 due("freed(" + which + ", " + i + ")", loci.freed(which, i), 0);
             }
+        }
+    }
+
+    private static void freedInTurn() {
+        EliminateLoci loci = circle();
+        for (int turn = 0; turn < 2; turn++) {
+            set(loci, of(1, 0, -1), of(0, 2), of(1, 0, 1));
+            dueFreed("nothing in common", loci, of(1, 0, -1), of(0, 2), of(1, 0, 1));
+            set(loci, of(1, 0, 1), of(0, 1, 0, 1), of(1, 0, 2, 0, 1));
+            dueFreed("t^2 + 1", loci, of(1), of(0, 1), of(1, 0, 1));
+            dueCurve("t^2 + 1", loci, 0, 2, 1, 0, 2, 1, 1, 0, -1, 2, 0, 1);
+            loci.clear();
+            dueFreed("cleared", loci, of(), of(), of());
+            set(loci, of(-1, 1), of(1, -1), of(0, -1, 1));
+            dueFreed("t - 1", loci, of(1), of(-1), of(0, 1));
+            set(loci, of(1, 1, 1, 1, 1), of(), of(2, 2, 2, 2, 2));
+            dueFreed("all of it", loci, of(1), of(), of(2));
         }
     }
 

@@ -13,8 +13,11 @@ public final class OracleTest {
 
     public static void main(String[] args) {
         for (int kind = 0; kind < 8; kind++) {
-            for (int n = 0; n < ROWS / 8; n++) {
-                check(rowOf(kind));
+            for (int n = 0; n < ROWS / 16; n++) {
+                // two rows, one after the other: nothing of the first may be left in the second's
+                EliminateLoci loci = new EliminateLoci();
+                check(loci, rowOf(kind));
+                check(loci, rowOf((kind + n) % 8));
             }
         }
         System.out.println(wrong == 0 ? "the oracle agrees" : wrong + " answers differ from the oracle's");
@@ -300,8 +303,7 @@ public final class OracleTest {
         same(what, BigInteger.valueOf(got), BigInteger.valueOf(want));
     }
 
-    private static void check(int[][] row) {
-        EliminateLoci loci = new EliminateLoci();
+    private static void check(EliminateLoci loci, int[][] row) {
         String name = java.util.Arrays.deepToString(row);
         BigInteger[][] big = new BigInteger[3][5];
         for (int which = 0; which < 3; which++) {
